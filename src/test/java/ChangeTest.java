@@ -91,6 +91,9 @@ public final class ChangeTest {
             due.is("rule(7, 255, 7, 7)", x.rule(7, 255, 7, 7), i);
         }
         due.is("rule when full", x.rule(0, 1, 0, 0), -3);
+        due.is("holds(11, 0, 0)", x.holds(11, 0, 0), 1);
+        due.is("holds(12, 0, 0) when full", x.holds(12, 0, 0), -1);
+        due.is("clash(11, 12) when full", x.clash(11, 12), -1);
         due.is("bad rule when full", x.rule(0, 0, 0, 0), -1);
         due.is("told(2)", x.told(2), 12);
     }
@@ -171,6 +174,10 @@ public final class ChangeTest {
         x.goes(0, 0);
         x.answer(1, 1, 3, 9);
         due.is("one holds no more", x.left(0, 0, 1), 8);
+        WhoCalls y = changed();
+        y.call(0, 0, 60);
+        y.rule(0, 4, 1, 0);
+        due.is("the first rule of all", y.left(0, 0, 1), 8);
         due.is("left(-1, 0, 0)", x.left(-1, 0, 0), -1);
         due.is("left(6, 0, 0)", x.left(6, 0, 0), -1);
         due.is("left(0, -1, 0)", x.left(0, -1, 0), -1);

@@ -11,6 +11,7 @@ public final class TextsTest {
         sees();
         usesAndShape();
         traceCountsEachAsking();
+        traceOfLongChains();
         traceOnlyBySees();
         due.end();
     }
@@ -206,6 +207,27 @@ public final class TextsTest {
         due.is("asked again, counted again", x.trace(), 245 + 111);
         x.clear(0);
         due.is("clear leaves the trace", x.trace(), 356);
+    }
+
+    private static void traceOfLongChains() {
+        WhoCalls x = new WhoCalls();
+        x.call(0, 0, 0);
+        x.call(1, 0, 0);
+        for (int s = 0; s < 11; s++) {
+            x.wrap(0, s, 1, 1);
+            x.split(1, s, s, 1, 128);
+        }
+        due.is("eleven wraps", x.sees(0, 11, 0), 8);
+        due.is("trace()", x.trace(), 111);
+        due.is("eleven splits", x.sees(1, 11, 0), 128);
+        due.is("trace()", x.trace(), 111 + 1101);
+        x.clear(1);
+        x.call(1, 0, 0);
+        for (int s = 0; s < 11; s++) {
+            x.split(1, s, s, 1, 129);
+        }
+        due.is("eleven splits, each asked by two ways but the first", x.sees(1, 11, 0), 129);
+        due.is("trace()", x.trace(), 1212 + 2102);
     }
 
     private static void traceOnlyBySees() {
