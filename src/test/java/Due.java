@@ -1,6 +1,7 @@
 /** Counts the calls of a test and prints each whose answer is not the one that is due. */
 final class Due {
     private final String test;
+    private String sentence = "";
     private int calls = 0;
     private int wrong = 0;
 
@@ -8,12 +9,17 @@ final class Due {
         this.test = test;
     }
 
+    /** The sentence of the document that the calls to come look at: told with each that is wrong. */
+    void said(String sentence) {
+        this.sentence = " [" + sentence + "]";
+    }
+
     /** What was answered, and what is due. */
     void is(String call, long got, long want) {
         calls++;
         if (got != want) {
             wrong++;
-            System.out.println(test + ": " + call + " answered " + got + ", due is " + want);
+            System.out.println(test + ": " + call + " answered " + got + ", due is " + want + sentence);
         }
     }
 
@@ -21,7 +27,7 @@ final class Due {
         calls++;
         if (!right) {
             wrong++;
-            System.out.println(test + ": not so: " + what);
+            System.out.println(test + ": not so: " + what + sentence);
         }
     }
 
