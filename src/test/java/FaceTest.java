@@ -32,7 +32,8 @@ public final class FaceTest {
         constants();
         members();
         nested();
-        source(Files.readString(Path.of(args[0])));
+        Path root = Path.of(args.length == 0 ? "." : args[0]);
+        source(Files.readString(root.resolve("src/main/java/WhoCalls.java")));
         due.end();
     }
 
