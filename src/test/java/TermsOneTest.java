@@ -16,6 +16,7 @@ public final class TermsOneTest {
         ownSetOfTheNamedPlaysNoPart();
         splitAtEachNumber();
         splitNamesTwo();
+        twoThatComeToOne();
         seenForEachDoor();
         tracedNumbers();
         tracedOnTheWay();
@@ -240,6 +241,33 @@ public final class TermsOneTest {
         due.is("sees all", x.sees(2, 1, 1), 255);
         due.is("a later one first", x.split(2, 1, 0, 3, 5), 2);
         due.is("sees", x.sees(2, 2, 1), 5);
+    }
+
+    private static void twoThatComeToOne() {
+        due.said("What a STATEMENT sees is, for each DOOR, a set of arguments.");
+        for (int d = 0; d < 8; d++) {
+            for (int m = 1; m < 8; m++) {
+                WhoCalls x = new WhoCalls();
+                x.call(0, 0, 0);
+                x.wrap(0, 0, d, 0);
+                x.split(0, 1, 0, m, 255);
+                int want = 0;
+                for (int v = 0; v < 8; v++) {
+                    want |= 1 << (v < m ? (v + d) % 8 : v);
+                }
+                String way = "below " + m + " behind a wrap of " + d;
+                due.is(way, x.sees(0, 2, 0), want);
+                due.is("uses, " + way, x.uses(0, 0), want);
+                due.is("shape, " + way, x.shape(0, 0), want == 255 ? 3 : 2);
+            }
+        }
+        WhoCalls x = new WhoCalls();
+        x.call(0, 0, 0);
+        x.wrap(0, 0, 1, 0);
+        x.split(0, 1, 0, 1, 3);
+        due.is("0 + 1 and 1", x.sees(0, 2, 0), 2);
+        due.is("two that come to one are CONST", x.shape(0, 0), 1);
+        due.is("each is asked: the split, the wrap, the call twice", x.trace(), 112);
     }
 
     private static void seenForEachDoor() {
